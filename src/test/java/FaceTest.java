@@ -40,6 +40,7 @@ public final class FaceTest {
         for (Method m : c.getDeclaredMethods()) {
             if (!Modifier.isPrivate(m.getModifiers())) {
                 got.add(signature(m));
+                check.due(m + " is public alone", m.getModifiers(), Modifier.PUBLIC);
                 names.add(m.getName());
             }
         }
@@ -83,15 +84,7 @@ public final class FaceTest {
         for (Class<?> p : m.getParameterTypes()) {
             s.append(s.charAt(s.length() - 1) == '(' ? "" : ",").append(p);
         }
-        check(m);
         return s.append(")").toString();
-    }
-
-    private static void check(Method m) {
-        if (Modifier.isStatic(m.getModifiers()) || !Modifier.isPublic(m.getModifiers())) {
-            System.out.println(m + " is not as the document has it");
-            System.exit(1);
-        }
     }
 
     /** The text without its comments and its texts in quotes. */

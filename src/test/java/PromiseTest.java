@@ -204,6 +204,7 @@ public final class PromiseTest {
         due("the same name in both", Check.statute(x, 1, "act one;"), 1);
         due("no blanks", Check.statute(x, 0, "act\none\nneed\ncoin\na>1and\nnot(day=1)make\nday+1*2;act two;"), 2);
         due("names of 2 and 8", Check.statute(x, 0, "act ab;act abcdefgh;"), 2);
+        due("names that end or begin alike", Check.statute(x, 0, "act za;act az;act zzaz;act zz;act actact;act coins;"), 6);
         due("numbers of 3", Check.statute(x, 0, "act ab need 000<999;"), 1);
     }
 
@@ -299,8 +300,35 @@ public final class PromiseTest {
         check.faultOfNever("day a=1", 1, 4);
         check.faultOfNever("day!1", 1, 3);
         check.faultOfNever("part a b=1", 1, 0);
+        longTexts();
         LawHoles x = new LawHoles();
         due("words and numbers side by side", Check.never(x, "coin a>1and not 2<day or(day=3)"), 0);
+    }
+
+    /** As many tokens as bytes, up to 700; and what is cut off does not count. */
+    private void longTexts() {
+        LawHoles x = new LawHoles();
+        String ones = "1+".repeat(348);
+        due("699 tokens", Check.never(x, ones + "1=1"), 0);
+        due("not so", x.hole(0, 3, 0, 7, 0), NONE);
+        due("700 tokens", Check.never(x, ones + "1=1+"), NONE);
+        due("at the end", x.fault(1), 700);
+        due("700 tokens", Check.never(x, ones + "1=1;"), NONE);
+        due("at the last", x.fault(1), 699);
+        due("700 bytes", Check.never(x, ones + "1=34"), 1);
+        due("so", Check.never(x, "1*".repeat(347) + "3*1=03"), 2);
+        due("so", x.hole(2, 3, 0, 7, 0), 0);
+        due("sum", Check.never(x, "1+".repeat(300) + "1=301 and " + "1*".repeat(40) + "1=1"), 3);
+        due("so", x.hole(3, 3, 0, 7, 0), 0);
+        due("feed", x.feed(0x6461793d, 0x31323334, 0x35202020, 0x20202020, 0x20202020), 20);
+        due("day=1", x.end(5), true);
+        due("never", x.never(), 4);
+        x.day(1);
+        due("what was cut off does not count", x.hole(4, 3, 0, 7, 0), 0);
+        due("feed", x.feed(0x6461793d, 0x6461797a, 0x7a202020, 0x20202020, 0x20202020), 20);
+        due("day=day", x.end(7), true);
+        due("never", x.never(), 5);
+        due("what was cut off does not count", x.hole(5, 3, 0, 7, 0), 0);
     }
 
     /** Promise 12: the FAULT 3. */
@@ -780,8 +808,17 @@ public final class PromiseTest {
         Check.never(x, "coin a=2 and day=1");
         Check.statute(x, 0, "act ab need coin a=1 make coin b+1 make coin a-1;act cd need coin a=1 and day=0 and things b=1 make coin a+1 make day+1;");
         x.owner(0, 0);
-        due("of all three none", x.friends(1, 1, 0), NONE);
+        due("not yet", x.friends(1, 1, 0), NONE);
         due("1 and 0", x.friends(1, 1, 1), 3);
+        x = new LawHoles();
+        for (int p = 0; p < 3; p++) {
+            x.coin(p, p);
+        }
+        Check.statute(x, 0, "act tick need coin a=day make day+1;");
+        Check.never(x, "day>2");
+        Check.cure(x, 0, "0=1");
+        due("all three, and cures do not count", x.friends(0, 1, 3), 7);
+        due("one too few", x.friends(0, 1, 2), NONE);
     }
 
     /** Promise 21. */
@@ -806,6 +843,8 @@ public final class PromiseTest {
         due("one is SPENT", x.only(1, 4), SPENT);
         due("a HOLE ahead of SPENT by two", x.only(2, 4), SPENT);
         due("a HOLE by one", x.only(2, 2), 0);
+        Check.cure(x, 0, "0=1");
+        due("cures do not count", x.only(0, 2), 1);
     }
 
     /** Promise 22. */
@@ -813,6 +852,8 @@ public final class PromiseTest {
         LawHoles x = earners();
         due("met", x.met(1, 3, false), 20);
         due("unlike", x.met(1, 3, true), 7);
+        Check.cure(x, 0, "0=1");
+        due("cures do not count", x.met(1, 3, true), 7);
         due("met by 2", x.met(2, 3, false), 1);
         due("laws 0", x.met(0, 3, false), NONE);
         due("laws 4", x.met(4, 3, false), NONE);
@@ -903,10 +944,13 @@ public final class PromiseTest {
         due("an honest row stays lawful", x.stop(2, 2, 0), 1);
         due("an honest row stays lawful", x.stop(2, 3, 0), NONE);
         due("honest", x.honest(1, false), true);
-        x.put(2, 767);
-        x.honest(2, true);
-        due("a row that is none", x.stop(2, 1, 0), NONE);
-        x.clear(2);
+        for (int row = 0; row < 6; row += 5) {
+            x.put(row, 767);
+            x.honest(row, true);
+            due("a row that is none", x.stop(2, 1, 0), NONE);
+            x.clear(row);
+        }
+        due("no more", x.stop(2, 1, 0), 0);
         x.honest(2, true);
         due("an empty row is lawful", x.stop(2, 1, 0), 0);
         due("never 5", x.stop(5, 3, 0), NONE);
@@ -1000,6 +1044,12 @@ public final class PromiseTest {
         due("child", x.hole(4, 1, 0, 7, 0), NONE);
         x.owner(1, 0);
         due("owner", x.hole(4, 1, 0, 7, 0), 0);
+        x.kin(1, 0, 1, false);
+        due("child no more", x.hole(4, 1, 0, 7, 0), NONE);
+        x.kin(1, 0, 1, true);
+        due("child again", x.hole(4, 1, 0, 7, 0), 0);
+        x.kin(1, 0, 0, false);
+        due("wed no more", x.hole(4, 1, 0, 7, 0), NONE);
         due("met", x.met(2, 1, false), 3);
         Check.statute(x, 1, "");
         due("statute", x.met(2, 1, false), 1);
