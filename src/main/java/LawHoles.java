@@ -1487,11 +1487,11 @@ public final class LawHoles {
         /** The first of the STATES with the most wealth. */
         int richest(int p) {
             int best = 0;
-            int most = wealth(0, p);
+            int highest = wealth(0, p);
             for (int i = 1; i < count && i < MOST_MET; i++) {
-                int wealth = wealth(i, p);
-                if (wealth > most) {
-                    most = wealth;
+                int here = wealth(i, p);
+                if (here > highest) {
+                    highest = here;
                     best = i;
                 }
             }
