@@ -239,7 +239,9 @@ public final class LawHoles {
         if (!isNever(k) || !areLaws(laws) || !isDepth(n)) {
             return NONE;
         }
-        if (persons < 1 || persons > ALL_PERSONS || !isWithin(what, HOW_MANY_MET)) {
+        // a ROW has at most n CODES, SPENT or not: of a CODE from n on nobody need ask a SEARCH
+        boolean canBeAsked = isWithin(what, n) || what == HOW_MANY_MET;
+        if (persons < 1 || persons > ALL_PERSONS || !canBeAsked) {
             return NONE;
         }
         search.begin(laws, n, persons, 0);
@@ -297,7 +299,8 @@ public final class LawHoles {
     }
 
     public int gain(int p, int laws, int n, int what) {
-        if (!isPerson(p) || !areLaws(laws) || !isDepth(n) || what < 0) {
+        // as in hole(): there is no CODE from n on, SPENT or not
+        if (!isPerson(p) || !areLaws(laws) || !isDepth(n) || !isWithin(what, n + 1)) {
             return NONE + BELOW_GAINS;
         }
         search.begin(laws, n, ALL_PERSONS, 0);
