@@ -177,6 +177,9 @@ public final class RandomRunsTest {
     }
 
     private int wild(int least, int most) {
+        if (any(200) == 0) {
+            return any(2) == 0 ? Integer.MIN_VALUE : Integer.MAX_VALUE;
+        }
         return any(25) == 0 ? any(most + 8) - 4 : least + any(most - least + 1);
     }
 
@@ -284,7 +287,7 @@ public final class RandomRunsTest {
         int persons = any(2) == 0 ? 7 : wild(1, 7);
         switch (any(6)) {
             case 0:
-                for (int what : new int[] {0, 1, 2, any(24) - 1, 20}) {
+                for (int what : new int[] {0, 1, 2, any(24) - 1, wild(0, 6), 20}) {
                     note("hole(" + k + "," + laws + "," + n + "," + persons + "," + what + ")",
                         x.hole(k, laws, n, persons, what), y.hole(k, laws, n, persons, what));
                 }
@@ -301,7 +304,7 @@ public final class RandomRunsTest {
                 break;
             case 4:
                 int p = wild(0, 2);
-                for (int what : new int[] {0, 1, 2, 3, any(12) - 1}) {
+                for (int what : new int[] {0, 1, 2, 3, any(12) - 1, wild(0, 7)}) {
                     note("gain(" + p + "," + laws + "," + n + "," + what + ")",
                         x.gain(p, laws, n, what), y.gain(p, laws, n, what));
                 }

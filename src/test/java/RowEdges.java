@@ -245,7 +245,9 @@ final class RowEdges {
             }
             for (int what : new int[] {LEAST, -1, 2, 20, MOST}) {
                 doc.due("what " + what, x.lawful(2, 3, 0, what), NONE);
+                doc.due("what " + what, x.lawful(3, 3, 0, what), NONE);
             }
+            doc.due("what can be", x.lawful(3, 3, 0, 1), 30);
             doc.due("what can be", x.lawful(2, 3, 31, 0), 0);
         });
     }
