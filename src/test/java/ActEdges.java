@@ -265,6 +265,7 @@ final class ActEdges {
 
     private void oneBehindTheOther() {
         doc.terms("COIN, DEBT and DAY more or less by them one behind the other (just what is left in the end is held against the bounds);");
+        justNumbers();
         LawHoles x = law("act ab make coin a-9 make coin a+20 make coin a-8;");
         doc.due("below 0 and over 15 between", why(x, 15), NONE);
         doc.due("3 is left", x.after(0, 0), 3);
@@ -294,8 +295,48 @@ final class ActEdges {
         doc.due("4 is left", x.after(0, 0), 4);
     }
 
+    /** What a number of a STATE is behind an ACT by a, with b and t. */
+    private interface Changed {
+        int of(int what, int before, Who who);
+    }
+
+    private record Who(int a, int b, int t) { }
+
+    /** One make by all PERSONS and THINGS: it changes what it tells, and nothing else. */
+    private void changesJust(String make, Changed changed) {
+        for (int code = 0; code < 64; code++) {
+            Who who = new Who(code / 16, code / 4 % 4, code % 4);
+            if (who.a() == 3 || who.b() == 3 || who.t() == 3 || who.a() == who.b()) {
+                continue;
+            }
+            LawHoles x = mixed();
+            Check.statute(x, 0, "act ab need coin b=coin b and owns a=owns a make " + make + ";");
+            x.put(1, code);
+            for (int what = 0; what <= 50; what++) {
+                int before = x.after(0, what);
+                int want = before == NONE ? NONE : changed.of(what, before, who);
+                doc.due(make + " by " + code + ", number " + what, x.after(1, what), want);
+            }
+        }
+    }
+
+    private static boolean isPair(int what, int place, int p, int q) {
+        return what == place + 3 * p + q;
+    }
+
+    private void justNumbers() {
+        changesJust("coin a+2", (what, before, who) -> what == who.a() ? before + 2 : before);
+        changesJust("coin b-3", (what, before, who) -> what == who.b() ? before - 3 : before);
+        changesJust("debt a b-1", (what, before, who) -> isPair(what, 10, who.a(), who.b()) ? before - 1 : before);
+        changesJust("debt b a-1", (what, before, who) -> isPair(what, 10, who.b(), who.a()) ? before - 1 : before);
+        changesJust("day+0-7", (what, before, who) -> what == 50 ? before - 7 : before);
+    }
+
     private void otherMakes() {
         doc.terms("P is OWNER of t, or nobody;");
+        changesJust("own a", (what, before, who) -> what == 40 + who.t() ? who.a() : before);
+        changesJust("own b", (what, before, who) -> what == 40 + who.t() ? who.b() : before);
+        changesJust("own none", (what, before, who) -> what == 40 + who.t() ? 3 : before);
         LawHoles x = law("act aa make own a;act ab make own b;act no make own none;");
         int[] codes = {12 + 1, 64 + 4 + 1, 128 + 12 + 1, 64 + 16 + 8 + 1, 12, 32 + 12 + 2};
         int[] owners = {0, 1, 3, 2, 2, 2};
@@ -310,6 +351,10 @@ final class ActEdges {
         doc.due("nobody, though there is another one", why(x, 4), NONE);
         doc.due("OWNER of 0", x.after(0, 40), 3);
         doc.terms("they are WED;");
+        for (String make : new String[] {"wed a b", "wed b a"}) {
+            changesJust(make, (what, before, who) ->
+                isPair(what, 20, who.a(), who.b()) || isPair(what, 20, who.b(), who.a()) ? 1 : before);
+        }
         x = law("act wa make wed a b;act wb make wed b a;act pa make part a b;act pb make part b a;");
         x.put(0, 32 + 3);
         doc.due("both ways", x.after(0, 22) + 2 * x.after(0, 26), 3);
@@ -319,6 +364,10 @@ final class ActEdges {
         x.put(0, 32 + 3);
         doc.due("once more", x.lawful(0, 3, 0, 0), 3);
         doc.terms("are not any more (part);");
+        for (String make : new String[] {"part a b", "part b a"}) {
+            changesJust(make, (what, before, who) ->
+                isPair(what, 20, who.a(), who.b()) || isPair(what, 20, who.b(), who.a()) ? 0 : before);
+        }
         x.put(0, 128 + 8 + 3);
         doc.due("not any more", x.after(0, 22) + 2 * x.after(0, 26), 0);
         doc.due("the others still", x.after(0, 21) + 2 * x.after(0, 23), 3);
@@ -327,6 +376,8 @@ final class ActEdges {
         x.put(0, 192 + 16 + 3);
         doc.due("who are not", x.lawful(0, 3, 0, 0), 6);
         doc.terms("the first is a CHILD of the second.");
+        changesJust("adopt a b", (what, before, who) -> isPair(what, 30, who.a(), who.b()) ? 1 : before);
+        changesJust("adopt b a", (what, before, who) -> isPair(what, 30, who.b(), who.a()) ? 1 : before);
         x = law("act ab make adopt a b;act ba make adopt b a;");
         x.put(0, 16 + 8 + 3);
         doc.due("a of b", x.after(0, 35) + 2 * x.after(0, 37), 1);

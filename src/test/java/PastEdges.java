@@ -103,6 +103,8 @@ final class PastEdges {
         doc.due("PERSONS are not THINGS", with(row(12, 16 + 12 + 1), 12, 32 + 12 + 2).through(0, 0), 1);
         doc.due("nobody stays nobody", with(row(63), 63).through(0, 1), 12012);
         doc.due("nobody becomes nobody else", with(row(48 + 15), 15, 31, 47).through(0, 0), NONE);
+        doc.due("nobody else becomes nobody", with(row(15, 0), 63, 63).through(0, 0), NONE);
+        doc.due("nobody else becomes nobody", with(row(15), 63).through(0, 0), NONE);
         doc.due("a row that can't be done", with(row(0), 42).through(0, 1), 201201);
     }
 
@@ -180,6 +182,10 @@ final class PastEdges {
         doc.due("what can be", x.through(0, 0), 0);
         x = with(row(15));
         doc.due("no PAST", x.through(0, 0), NONE);
+        x = with(row(0));
+        doc.due("no PAST, not even CODE 0", x.through(0, 0), NONE);
+        x.past(64);
+        doc.due("no CODE 0 behind it", x.through(0, 0), NONE);
     }
 
     private void calls() {

@@ -427,6 +427,10 @@ final class SearchEdges {
         doc.due("the least with PERSON 1", x.friends(1, 1, 6), 3);
         Check.cure(x, 0, "0=1");
         doc.due("without CURES", x.friends(1, 1, 6), 3);
+        x = law("act ab need things a=1 make day+1;act cd need things a+things b=0 make day+1;", "day=1");
+        x.owner(0, 2);
+        doc.due("0 and 1 could", x.hole(0, 1, 1, 3, 0), 1);
+        doc.due("PERSON 2 alone is fewer", x.friends(0, 1, 1), 4);
         x = law("act ab need things a=1 make coin a+1;act ac need things a=1 make coin b+1;act ad need things a=1 make debt a b+1;"
             + "act ae need things a=1 make debt b a+1;act af need things a=1 make day+1;", "wed a b=1");
         Check.statute(x, 1, "act ab need child a b=1 make wed a b;");

@@ -96,6 +96,16 @@ final class TextEdges {
         Check.feed(x, "day=0");
         doc.due("none", x.end(0), true);
         doc.due("none is left", feedBlanks(x), 20);
+        x = new LawHoles();
+        x.day(1);
+        Check.feed(x, "day=12");
+        doc.due("in a number", x.end(5), true);
+        doc.due("which is 1 then", x.never(), 0);
+        doc.due("and so", x.hole(0, 3, 0, 7, 0), 0);
+        Check.feed(x, "1=days");
+        doc.due("in a word", x.end(5), true);
+        doc.due("which is day then", x.never(), 1);
+        doc.due("and so", x.hole(1, 3, 0, 7, 0), 0);
         doc.promise(8, "false, changing nothing, if it has not so many, or n is below 0.");
         doc.due("of 20", x.end(21), false);
         x.end(0);
@@ -481,6 +491,10 @@ final class TextEdges {
         doc.due("a text of 700", Check.never(x, full + ";"), NONE);
         doc.due("the last of 700", x.fault(1), 699);
         doc.due("a text of 700", Check.never(x, full + "9"), 0);
+        doc.due("a text of 700", Check.never(x, "1+".repeat(347) + "1>=day"), NONE);
+        doc.due("not its last word", x.fault(1), 696);
+        doc.due("a text of 700", Check.never(x, "1+".repeat(347) + "10>day"), 1);
+        doc.due("its last word counts", x.hole(1, 3, 0, 7, 0), 0);
         doc.due("a statute of 700", Check.statute(x, 0, "act ab" + " ".repeat(693) + ";"), 1);
         doc.due("a statute of 700", Check.statute(x, 0, "act ab" + " ".repeat(694)), NONE);
         doc.due("the end of 700", x.fault(1), 700);
