@@ -239,9 +239,7 @@ public final class LawHoles {
         if (!isNever(k) || !areLaws(laws) || !isDepth(n)) {
             return NONE;
         }
-        // a ROW has at most n CODES, SPENT or not: of a CODE from n on nobody need ask a SEARCH
-        boolean canBeAsked = isWithin(what, n) || what == HOW_MANY_MET;
-        if (persons < 1 || persons > ALL_PERSONS || !canBeAsked) {
+        if (persons < 1 || persons > ALL_PERSONS || !isWithin(what, HOW_MANY_MET)) {
             return NONE;
         }
         search.begin(laws, n, persons, 0);
@@ -250,6 +248,7 @@ public final class LawHoles {
             return found == NONE ? search.count : found + 1;
         }
         if (found == NONE) {
+            // ahead of "there is no such CODE": without a HOLE there is none, whichever k it is
             return search.isSpent ? SPENT : NONE;
         }
         return what == 0 ? search.acts(found) : search.code(found, what - 1);
@@ -299,8 +298,7 @@ public final class LawHoles {
     }
 
     public int gain(int p, int laws, int n, int what) {
-        // as in hole(): there is no CODE from n on, SPENT or not
-        if (!isPerson(p) || !areLaws(laws) || !isDepth(n) || !isWithin(what, n + 1)) {
+        if (!isPerson(p) || !areLaws(laws) || !isDepth(n) || what < 0) {
             return NONE + BELOW_GAINS;
         }
         search.begin(laws, n, ALL_PERSONS, 0);

@@ -675,7 +675,7 @@ final class PlainLaw {
 
     int hole(int k, int laws, int n, int persons, int what) {
         if (!in(k, 0, nevers.size() - 1) || !in(laws, 1, 3) || !in(n, 0, 6) || !in(persons, 1, 7)
-            || !in(what, 0, n) && what != 20) {
+            || !in(what, 0, 20)) {
             return NONE;
         }
         Found f = search(laws, n, persons, 0);
@@ -742,7 +742,7 @@ final class PlainLaw {
     }
 
     int gain(int p, int laws, int n, int what) {
-        if (!in(p, 0, 2) || !in(laws, 1, 3) || !in(n, 0, 6) || !in(what, 0, n + 1)) {
+        if (!in(p, 0, 2) || !in(laws, 1, 3) || !in(n, 0, 6) || what < 0) {
             return NONE - 99;
         }
         Found f = search(laws, n, 7, 0);

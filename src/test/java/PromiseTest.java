@@ -721,7 +721,7 @@ public final class PromiseTest {
         due("ahead of the 401st", x.hole(0, 1, 5, 7, 0), 4);
         due("ahead of the 401st", x.hole(0, 1, 5, 7, 20), 221);
         for (int what = 0; what < 20; what++) {
-            due("SPENT, but where there can be no CODE", x.hole(1, 1, 5, 7, what), what <= 5 ? SPENT : NONE);
+            due("SPENT", x.hole(1, 1, 5, 7, what), SPENT);
         }
         due("but for 20", x.hole(1, 1, 5, 7, 20), 400);
         due("another what", x.hole(1, 1, 5, 7, 21), NONE);
@@ -912,7 +912,7 @@ public final class PromiseTest {
         due("of several the first", x.gain(1, 1, 1, 2), 7);
         Check.statute(x, 0, "act ab make coin a+1;act cd make debt a b+1;");
         for (int what = 0; what < 20; what++) {
-            due("SPENT, but where there can be no CODE", x.gain(0, 1, 4, what), what <= 5 ? -101 : -100);
+            due("SPENT", x.gain(0, 1, 4, what), -101);
         }
         due("another what", x.gain(0, 1, 4, -1), -100);
     }

@@ -395,8 +395,8 @@ final class SearchEdges {
         doc.due("behind one", x.hole(0, 1, 5, 7, 20), 221);
         for (int n = 4; n <= 6; n++) {
             for (int what = 0; what <= 22; what++) {
-                // a ROW has at most n CODES: there is no such CODE, SPENT or not
-                int want = what == 20 ? 400 : what <= n ? SPENT : NONE;
+                // ahead of a HOLE there is no CODE at all, from n on as below it: "but for what 20" alone
+                int want = what == 20 ? 400 : what < 20 ? SPENT : NONE;
                 doc.due("ahead of one up to " + n + ", what " + what, x.hole(2, 1, n, 7, what), want);
             }
             doc.due("another what", x.hole(2, 1, n, 7, -1), NONE);
@@ -677,8 +677,7 @@ final class SearchEdges {
         x = law(WIDE);
         for (int n = 4; n <= 6; n++) {
             for (int what = -1; what <= 22; what++) {
-                // a ROW has at most n CODES: there is no such CODE, SPENT or not
-                int want = what >= 0 && what <= n + 1 ? -101 : -100;
+                int want = what >= 0 ? -101 : -100;
                 doc.due("up to " + n + ", what " + what, x.gain(0, 1, n, what), want);
             }
         }
