@@ -26,9 +26,22 @@ public final class FaceTest {
 
     public static void main(String[] args) throws IOException {
         Check check = new Check();
+        document(check);
         face(check);
         text(check);
         check.close();
+    }
+
+    /** The names that METHODS has are the document's, with the types that it tells. */
+    private static void document(Check check) throws IOException {
+        String document = Files.readString(Path.of("../shared/DOC.md"));
+        Set<String> told = new TreeSet<>();
+        Matcher m = Pattern.compile("(?m)^    public (int|boolean) (\\w+)\\((.*)\\);$").matcher(document);
+        while (m.find()) {
+            String types = m.group(3).replaceAll(" \\w+(, )?", "$1").replace(" ", "");
+            told.add(m.group(1) + " " + m.group(2) + "(" + types + ")");
+        }
+        check.due("the document's face " + told, told.equals(new TreeSet<>(Arrays.asList(METHODS))), true);
     }
 
     private static void face(Check check) {
