@@ -67,6 +67,16 @@ final class Check {
         return x.cure(act);
     }
 
+    /** A new object with this STATUTE 0 and these NEVERS. */
+    static LawHoles law(String statute, String... nevers) {
+        LawHoles x = new LawHoles();
+        statute(x, 0, statute);
+        for (String never : nevers) {
+            never(x, never);
+        }
+        return x;
+    }
+
     /** A FAULT of a text as a STATUTE: its kind, its place. */
     void faultOfStatute(String text, int kind, int place) {
         LawHoles x = new LawHoles();

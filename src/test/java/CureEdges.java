@@ -21,15 +21,6 @@ final class CureEdges {
         stopRefused();
     }
 
-    private static LawHoles law(String statute, String... nevers) {
-        LawHoles x = new LawHoles();
-        Check.statute(x, 0, statute);
-        for (String never : nevers) {
-            Check.never(x, never);
-        }
-        return x;
-    }
-
     private void cures() {
         doc.promise(11, "The TAPE, empty then, is one more CURE, of an ACT by its number (0 .. 11, there or not): its number.");
         for (int act = 0; act < 12; act++) {
@@ -47,7 +38,7 @@ final class CureEdges {
             doc.due("of ACT " + act + ", which is there", Check.cure(x, act, "1=1"), 1);
         }
         doc.terms("CURES 0 .. 4 as they come are a TEXT = B each,");
-        LawHoles x = law("act ab make day+1;");
+        LawHoles x = Check.law("act ab make day+1;");
         x.put(0, 15);
         for (int i = 0; i < 5; i++) {
             doc.due("a FAULT is no CURE", Check.cure(x, 0, "day"), NONE);
@@ -67,7 +58,7 @@ final class CureEdges {
 
     private void cureRefused() {
         doc.promise(11, "NONE: there are five, no such number (fault() tells 0), or a FAULT.");
-        LawHoles x = law("act ab make day+1;");
+        LawHoles x = Check.law("act ab make day+1;");
         x.put(0, 15);
         for (int i = 0; i < 5; i++) {
             for (int act : new int[] {LEAST, -1, 12, 64, MOST}) {
@@ -97,7 +88,7 @@ final class CureEdges {
 
     /** All that U may be of is there, so that what is 0 is so by the document alone. */
     private static LawHoles full(String act) {
-        LawHoles x = law(act);
+        LawHoles x = Check.law(act);
         for (int p = 0; p < 3; p++) {
             x.coin(p, 7);
             x.owner(p, p == 0 ? 3 : p);
@@ -148,7 +139,7 @@ final class CureEdges {
     private void stops() {
         doc.terms("A set of CURES STOPS a NEVER up to n ACTS (both STATUTES, all PERSONS):"
             + " no HOLE by a SEARCH that is not SPENT in which they count,");
-        LawHoles x = law("act ab make coin a+1;", "coin a=1 and day=1", "day=1", "coin a=0 and coin b=0 and day=0");
+        LawHoles x = Check.law("act ab make coin a+1;", "coin a=1 and day=1", "day=1", "coin a=0 and coin b=0 and day=0");
         Check.statute(x, 1, "act ab need coin b=1 make day+1;");
         doc.due("no HOLE up to 1", x.stop(0, 1, 0), 0);
         doc.due("a HOLE by both up to 2", x.stop(0, 2, 0), NONE);
@@ -158,11 +149,11 @@ final class CureEdges {
         doc.due("up to 6", x.stop(0, 6, 0), 1);
         doc.due("THE BEGINNING is one", x.stop(2, 0, 0), NONE);
         // the set of all of them is the one that counts for the first of them
-        x = law("act ab make day+1;act cd make coin a+1;", "day=1", "coin a=1");
+        x = Check.law("act ab make day+1;act cd make coin a+1;", "day=1", "coin a=1");
         Check.cure(x, 1, "0=1");
         doc.due("it counts for the one", x.stop(1, 3, 0), 1);
         doc.due("not for the other", x.stop(0, 3, 0), NONE);
-        x = law("act ab make coin a+1;act cd make debt a b+1;", "coin a>9");
+        x = Check.law("act ab make coin a+1;act cd make debt a b+1;", "coin a>9");
         doc.due("not SPENT", x.stop(0, 3, 0), 0);
         doc.due("no HOLE, but SPENT", x.stop(0, 4, 0), NONE);
         Check.cure(x, 0, "1=1");
@@ -179,7 +170,7 @@ final class CureEdges {
     private void honestRows() {
         doc.terms("and all HONEST ROWS are LAWFUL to their end with them.");
         for (int row = 0; row < 6; row++) {
-            LawHoles x = law("act ab make day+1;", "day=3");
+            LawHoles x = Check.law("act ab make day+1;", "day=3");
             Check.statute(x, 1, "act ab make coin a+1;");
             Check.cure(x, 0, "day=9");
             Check.cure(x, 0, "day<1");
@@ -210,7 +201,7 @@ final class CureEdges {
     private void fewest() {
         doc.terms("THE FEWEST that STOP it; of several sets the least as a number (CURE i counts 2 to the i).");
         for (int i = 0; i < 5; i++) {
-            LawHoles x = law("act ab make day+1;", "day=1");
+            LawHoles x = Check.law("act ab make day+1;", "day=1");
             for (int j = 0; j < 5; j++) {
                 Check.cure(x, 0, j == i ? "0=1" : "1=1");
             }
@@ -219,7 +210,7 @@ final class CureEdges {
         }
         // each of five ways must be stopped by a CURE of its own, or two of them by one
         String five = "act aa make day+1;act ab make day+1;act ac make day+1;act ad make day+1;act ae make day+1;";
-        LawHoles x = law(five, "day=1");
+        LawHoles x = Check.law(five, "day=1");
         for (int i = 0; i < 5; i++) {
             doc.due("not yet", x.stop(0, 1, 0), NONE);
             Check.cure(x, i, "0=1");
@@ -227,7 +218,7 @@ final class CureEdges {
         doc.due("all five", x.stop(0, 1, 0), 31);
         doc.due("five", x.stop(0, 1, 1), 5);
         // one CURE of a higher number is fewer than two of lower numbers
-        x = law("act aa make coin a+1;act ab need coin a=1 make day+1;act ac need coin a=1 make day+2;", "day>0");
+        x = Check.law("act aa make coin a+1;act ab need coin a=1 make day+1;act ac need coin a=1 make day+2;", "day>0");
         Check.cure(x, 1, "0=1");
         Check.cure(x, 2, "0=1");
         doc.due("two", x.stop(0, 6, 0), 3);
@@ -239,7 +230,7 @@ final class CureEdges {
         Check.cure(x, 0, "1=2");
         doc.due("the least of two", x.stop(0, 6, 0), 8);
         // two of several pairs
-        x = law("act aa make day+1;act ab make day+1;", "day=1");
+        x = Check.law("act aa make day+1;act ab make day+1;", "day=1");
         int[] acts = {0, 0, 1, 0, 1};
         for (int act : acts) {
             Check.cure(x, act, "0=1");
@@ -252,7 +243,7 @@ final class CureEdges {
 
     private void stopCalls() {
         doc.promise(24, "STOPS: what 0 the set of THE FEWEST CURES, 1 how many.");
-        LawHoles x = law("act aa make day+1;act ab make day+1;", "day=1", "day=9");
+        LawHoles x = Check.law("act aa make day+1;act ab make day+1;", "day=1", "day=9");
         Check.cure(x, 5, "0=1");
         Check.cure(x, 1, "0=1");
         Check.cure(x, 0, "0=1");
@@ -264,7 +255,7 @@ final class CureEdges {
 
     private void stopRefused() {
         doc.promise(24, "NONE if none STOPS it, one can't be, or another what.");
-        LawHoles x = law("act aa make day+1;", "day=1", "day=0");
+        LawHoles x = Check.law("act aa make day+1;", "day=1", "day=0");
         Check.cure(x, 0, "0=1");
         for (int what = 0; what < 2; what++) {
             doc.due("none STOPS it", x.stop(1, 0, what), NONE);

@@ -727,44 +727,13 @@ public final class PromiseTest {
         due("another what", x.hole(1, 1, 5, 7, 21), NONE);
         due("less persons", x.hole(1, 1, 5, 1, 0), 5);
         for (int most = 399; most <= 401; most++) {
-            x = counter(most);
+            x = Counter.of(most, "coin a>99");
             due("met of " + most, x.met(1, 6, false), most > 400 ? SPENT : most);
             due("in all of " + most, x.hole(0, 1, 6, 7, 20), Math.min(most, 400));
             due("no hole of " + most, x.hole(0, 1, 6, 7, 0), most > 400 ? SPENT : NONE);
             due("gain of " + most, x.gain(2, 1, 6, 0), most > 400 ? -101 : 0);
             due("stop of " + most, x.stop(0, 6, 0), most > 400 ? NONE : 0);
         }
-    }
-
-    /** How many steps by 1 and by 4 a number is. */
-    private static int steps(int v) {
-        return v / 4 + v % 4;
-    }
-
-    /** A law by which just so many STATES are MET: PERSON 0 counts with coins, days and debts, up to some sum of them. */
-    private static LawHoles counter(int most) {
-        int sum = -1;
-        int many = 0;
-        while (many < most) {
-            sum++;
-            int all = steps(sum % 16) + steps(sum / 16 % 16) + steps(sum / 256);
-            many += all <= 6 ? 1 : 0;
-        }
-        LawHoles x = new LawHoles();
-        x.owner(0, 0);
-        x.owner(1, 0);
-        x.owner(2, 1);
-        String[] makes = {"coin a+1", "coin a+4", "day+1", "day+4", "debt a b+1", "debt a b+4"};
-        int[] by = {1, 4, 16, 64, 256, 999 + 25};
-        StringBuilder text = new StringBuilder();
-        for (int i = 0; i < 6; i++) {
-            text.append("act c").append((char) ('a' + i)).append(" need things a=2 need things b=1")
-                .append(" need coin a+16*day+256*debt a b+").append(by[i] > 999 ? "999+25" : "" + by[i])
-                .append("<999+").append(sum - 998).append(" make ").append(makes[i]).append(';');
-        }
-        Check.statute(x, 0, text.toString());
-        Check.never(x, "coin a>99");
-        return x;
     }
 
     /** Promise 20. */

@@ -35,15 +35,6 @@ final class SearchEdges {
         gainRefused();
     }
 
-    private static LawHoles law(String statute, String... nevers) {
-        LawHoles x = new LawHoles();
-        Check.statute(x, 0, statute);
-        for (String never : nevers) {
-            Check.never(x, never);
-        }
-        return x;
-    }
-
     /** Whether THE BEGINNING is a NEVER. */
     private static boolean isNever(LawHoles x, int k) {
         return x.hole(k, 3, 0, 7, 0) == 0;
@@ -51,7 +42,7 @@ final class SearchEdges {
 
     private void nevers() {
         doc.terms("NEVERS 0 .. 5 as they come are TEXTS = B:");
-        LawHoles x = law("", "day=0", "day=1", "day=2", "day=3", "day=4", "day=5");
+        LawHoles x = Check.law("", "day=0", "day=1", "day=2", "day=3", "day=4", "day=5");
         for (int day = 0; day < 6; day++) {
             x.day(day);
             for (int k = 0; k < 6; k++) {
@@ -59,7 +50,7 @@ final class SearchEdges {
             }
         }
         doc.terms("a STATE is one, if B is so for some a, some unlike b, some t (also if they do not stand in it).");
-        x = law("", "1=1", "1=2", "coin a=9", "coin b=9", "coin a=coin b", "coin a+coin b=18");
+        x = Check.law("", "1=1", "1=2", "coin a=9", "coin b=9", "coin a=coin b", "coin a+coin b=18");
         doc.due("without any of them", isNever(x, 0), true);
         doc.due("without any of them", isNever(x, 1), false);
         for (int p = 0; p < 3; p++) {
@@ -74,7 +65,7 @@ final class SearchEdges {
             doc.due("unlike b", isNever(x, 5), false);
         }
         for (int pair = 1; pair < 8; pair++) {
-            x = law("", "debt a b=1", "debt b a=1 and wed a b=1", "child a b=1", "child a b=1 and debt b a=1");
+            x = Check.law("", "debt a b=1", "debt b a=1 and wed a b=1", "child a b=1", "child a b=1 and debt b a=1");
             x.debt(pair / 3, pair % 3, 1);
             doc.due("for pair " + pair, isNever(x, 0), pair != 4);
             x.kin(pair % 3, pair / 3, 0, true);
@@ -84,7 +75,7 @@ final class SearchEdges {
             doc.due("for one a and b at once", isNever(x, 3), false);
         }
         for (int t = 0; t < 3; t++) {
-            x = law("", "owns a=1", "owns a=1 and coin a=1", "owns b=1 and coin a=1", "owns a=0 and owns b=0");
+            x = Check.law("", "owns a=1", "owns a=1 and coin a=1", "owns b=1 and coin a=1", "owns a=0 and owns b=0");
             x.owner(t, t);
             doc.due("for t " + t, isNever(x, 0), true);
             doc.due("for one a and t at once", isNever(x, 1), false);
@@ -107,7 +98,7 @@ final class SearchEdges {
             if (a == 3 || b == 3 || t == 3 || a == b) {
                 continue;
             }
-            LawHoles x = law("", "owns a=1 and coin b=9", "owns b=1 and coin a=9", "owns a=1 and debt a b=1", "owns a=1 and debt b a=1");
+            LawHoles x = Check.law("", "owns a=1 and coin b=9", "owns b=1 and coin a=9", "owns a=1 and debt a b=1", "owns a=1 and debt b a=1");
             x.owner(t, a);
             x.coin(b, 9);
             doc.due("for a, b and t of " + code, isNever(x, 0), true);
@@ -116,7 +107,7 @@ final class SearchEdges {
             doc.due("for a, b and t of " + code, isNever(x, 2), true);
             doc.due("for no other way of " + code, isNever(x, 3), false);
         }
-        LawHoles x = law("", "coin a=0", "coin b=0", "owns a=0 and things a=3", "debt a b=0", "wed a b=0", "child a b=0");
+        LawHoles x = Check.law("", "coin a=0", "coin b=0", "owns a=0 and things a=3", "debt a b=0", "wed a b=0", "child a b=0");
         for (int p = 0; p < 3; p++) {
             x.coin(p, 1);
             x.owner(p, 0);
@@ -133,7 +124,7 @@ final class SearchEdges {
 
     private void byLaws() {
         doc.terms("A SEARCH by LAWS (1 STATUTE 0, 2 STATUTE 1, 3 both),");
-        LawHoles x = law("act ab make coin a+1;", "coin a=1", "day=1", "coin a=1 and day=1");
+        LawHoles x = Check.law("act ab make coin a+1;", "coin a=1", "day=1", "coin a=1 and day=1");
         Check.statute(x, 1, "act ab make day+1;");
         int[][] want = {{1, NONE, 1}, {NONE, 1, 1}, {NONE, NONE, 2}};
         for (int k = 0; k < 3; k++) {
@@ -150,7 +141,7 @@ final class SearchEdges {
     private void upToActs() {
         doc.terms("up to n ACTS (0 .. 6),");
         for (int n = -1; n <= 7; n++) {
-            LawHoles x = law("act ab need coin a=day make coin a+1 make day+1;", "day=" + Math.max(n, 0), "day>" + Math.max(n, 0));
+            LawHoles x = Check.law("act ab need coin a=day make coin a+1 make day+1;", "day=" + Math.max(n, 0), "day>" + Math.max(n, 0));
             boolean can = n >= 0 && n <= 6;
             doc.due("n of " + n, x.hole(0, 1, n, 1, 0), can ? n : NONE);
             doc.due("n + 1 of " + n, x.hole(1, 1, n, 1, 0), NONE);
@@ -170,25 +161,25 @@ final class SearchEdges {
         for (int set = 0; set <= 8; set++) {
             int many = Integer.bitCount(set);
             boolean can = set >= 1 && set <= 7;
-            LawHoles x = law("act ab make coin a+1;", "1=2");
+            LawHoles x = Check.law("act ab make coin a+1;", "1=2");
             doc.due("a of " + set, x.hole(0, 1, 1, set, 20), can ? 1 + many : NONE);
-            x = law("act ab make debt a b+1;", "1=2");
+            x = Check.law("act ab make debt a b+1;", "1=2");
             doc.due("a and b of " + set, x.hole(0, 1, 1, set, 20), can ? 1 + many * (many - 1) : NONE);
-            x = law("act ab make coin b+1;", "1=2", "coin a=9");
+            x = Check.law("act ab make coin b+1;", "1=2", "coin a=9");
             doc.due("b of " + set, x.hole(0, 1, 1, set, 20), can ? many > 1 ? 1 + many : 1 : NONE);
-            x = law("act ab make own a;", "1=2");
+            x = Check.law("act ab make own a;", "1=2");
             doc.due("all THINGS by " + set, x.hole(0, 1, 1, set, 20), can ? 1 + 3 * many : NONE);
         }
         for (int p = 0; p < 3; p++) {
             for (int set = 1; set <= 7; set++) {
-                LawHoles x = law("act ab make coin a+1;", "coin a=1 and things a=1", "things b=1");
+                LawHoles x = Check.law("act ab make coin a+1;", "coin a=1 and things a=1", "things b=1");
                 x.owner(0, p);
                 boolean isOfSet = (set >> p) % 2 == 1;
                 doc.due(p + " of " + set, x.hole(0, 1, 1, set, 1), isOfSet ? 16 * p + 15 : NONE);
                 doc.due("who is a NEVER need not be of it", x.hole(1, 1, 1, set, 0), 0);
             }
         }
-        LawHoles x = law("act ab make coin a+1;act cd make debt a b+1;", "1=2");
+        LawHoles x = Check.law("act ab make coin a+1;act cd make debt a b+1;", "1=2");
         for (int set : new int[] {7, 2, 6, 4, 5, 1, 3, 7, 4, 7, 1}) {
             int many = Integer.bitCount(set);
             doc.due("one behind the other, " + set, x.hole(0, 1, 1, set, 20), 1 + many * many);
@@ -197,7 +188,7 @@ final class SearchEdges {
 
     /** By how many STATES a NEVER is MET. */
     private void isMetAs(int place, String never) {
-        LawHoles x = law("act ab make coin a+1;act cd make day+1;", never);
+        LawHoles x = Check.law("act ab make coin a+1;act cd make day+1;", never);
         doc.due("place of " + never, x.hole(0, 1, 2, 7, 20), place);
         doc.due("is there one of " + never, x.hole(0, 1, 2, 7, 0) >= 0, true);
     }
@@ -205,7 +196,7 @@ final class SearchEdges {
     private void inOrder() {
         doc.terms("STATES are MET in order: THE BEGINNING; then of each STATE MET with less than n ACTS, in order,"
             + " all LAWFUL CODES, the least first: the STATE then, if it was not MET.");
-        LawHoles x = law("act ab make coin a+1;act cd make day+1;", "1=2", "1=1");
+        LawHoles x = Check.law("act ab make coin a+1;act cd make day+1;", "1=2", "1=1");
         doc.due("THE BEGINNING", x.hole(1, 1, 6, 7, 20), 1);
         doc.due("with less than 0", x.met(1, 0, false), 1);
         doc.due("with less than 1", x.met(1, 1, false), 5);
@@ -216,7 +207,7 @@ final class SearchEdges {
             "coin a=8 and coin b=1", "coin a=8 and day=1", "coin a=6", "coin a=5 and coin b=1", "coin a=5 and day=1", "coin a=2",
             "coin a=1 and day=1", "day=2"};
         for (int i = 0; i < order.length; i++) {
-            LawHoles y = law("act ab make coin a+1;act cd make day+1;", order[i]);
+            LawHoles y = Check.law("act ab make coin a+1;act cd make day+1;", order[i]);
             y.coin(0, 7);
             y.coin(1, 4);
             doc.due("place of " + order[i], y.hole(0, 1, 2, 7, 20), i + 1);
@@ -225,12 +216,12 @@ final class SearchEdges {
         isMetAs(7, "coin a=1 and coin b=1");
         isMetAs(15, "day=2");
         // CODES of STATUTE 1 are behind those of STATUTE 0, things behind persons
-        x = law("act ab make own b make day+1;", "things a=1 and coin a=0", "coin a=1");
+        x = Check.law("act ab make own b make day+1;", "things a=1 and coin a=0", "coin a=1");
         Check.statute(x, 1, "act ab make coin a+1;");
         doc.due("STATUTE 0 first", x.hole(0, 3, 1, 7, 20), 2);
         doc.due("STATUTE 1 behind", x.hole(1, 3, 1, 7, 20), 2 + 9);
         doc.due("a STATE that was MET is not MET again", x.met(1, 1, false), 10);
-        x = law("act ab need day=0 make day+1;act cd need day=1 make day+0-1;act ef;", "1=2");
+        x = Check.law("act ab need day=0 make day+1;act cd need day=1 make day+0-1;act ef;", "1=2");
         doc.due("there and back", x.met(1, 6, false), 2);
         doc.due("there and back", x.hole(0, 1, 6, 7, 0), NONE);
         allCodes();
@@ -251,7 +242,7 @@ final class SearchEdges {
         String five = six.substring(0, six.indexOf("act af"));
         String last = five + "act af need coin a=9 and coin b=8 need owns b=1 make day+1;";
         for (int l = 0; l < 2; l++) {
-            LawHoles x = law("", "day=1");
+            LawHoles x = Check.law("", "day=1");
             Check.statute(x, l, last);
             Check.statute(x, 1 - l, six.toString());
             x.coin(2, 9);
@@ -259,7 +250,7 @@ final class SearchEdges {
             x.owner(2, 1);
             doc.due("the last of all CODES", x.hole(0, 3, 1, 7, 1), 64 * (6 * l + 5) + 32 + 4 + 2);
         }
-        LawHoles x = law("act ab need owns a=1 make own none make day+1;", "day=1", "day=2");
+        LawHoles x = Check.law("act ab need owns a=1 make own none make day+1;", "day=1", "day=2");
         for (int t = 0; t < 3; t++) {
             doc.due("nobody has one", x.hole(0, 1, 1, 7, 1), NONE);
             x.owner(t, 1);
@@ -305,7 +296,7 @@ final class SearchEdges {
 
     private void rowsOfStates() {
         doc.terms("THE ROW of a STATE: the CODES by which it was MET.");
-        LawHoles x = law("act ab make coin a+1;act cd need coin a=1 and coin b=1 make debt b a+1;act ef need debt a b=1 make own b;",
+        LawHoles x = Check.law("act ab make coin a+1;act cd need coin a=1 and coin b=1 make debt b a+1;act ef need debt a b=1 make own b;",
             "things a=1 and debt a b=0", "coin a=1 and coin b=1", "debt a b=1");
         int[] codes = {15, 31, 64 + 7, 128 + 16};
         doc.due("four", x.hole(0, 1, 4, 7, 0), 4);
@@ -322,7 +313,7 @@ final class SearchEdges {
 
     private void holes() {
         doc.terms("A HOLE of a NEVER: THE ROW of the first STATE MET that is one (without CURES).");
-        LawHoles x = law("act ab make day+2;act cd make day+3;act ef make coin a+1 make day+1;", "day>5", "day>2", "day>3", "day=0", "day=5");
+        LawHoles x = Check.law("act ab make day+2;act cd make day+3;act ef make coin a+1 make day+1;", "day>5", "day>2", "day>3", "day=0", "day=5");
         Check.cure(x, 1, "0=1");
         doc.due("the fewest ACTS", x.hole(0, 1, 6, 7, 0), 2);
         doc.due("the first CODE", x.hole(0, 1, 6, 7, 1), 64 + 15);
@@ -342,7 +333,7 @@ final class SearchEdges {
 
     private void holeWhats() {
         doc.promise(19, "what 0 how many CODES, 1 + k CODE k, 20 how many STATES were MET by then (in all without one).");
-        LawHoles x = law("act ab need coin a=day make coin a+1 make day+1;", "day=6", "day=0", "day=7");
+        LawHoles x = Check.law("act ab need coin a=day make coin a+1 make day+1;", "day=6", "day=0", "day=7");
         doc.due("six CODES", x.hole(0, 1, 6, 4, 0), 6);
         for (int k = 0; k < 6; k++) {
             doc.due("CODE " + k, x.hole(0, 1, 6, 4, 1 + k), 47);
@@ -357,7 +348,7 @@ final class SearchEdges {
 
     private void holeRefused() {
         doc.promise(19, "NONE if there is none (but for 20), one can't be, there is no such CODE, or another what;");
-        LawHoles x = law("act ab make day+1;", "day=2", "day=15");
+        LawHoles x = Check.law("act ab make day+1;", "day=2", "day=15");
         doc.due("there is none", x.hole(1, 1, 6, 7, 0), NONE);
         doc.due("there is none", x.hole(1, 1, 6, 7, 1), NONE);
         doc.due("but for 20", x.hole(1, 1, 6, 7, 20), 7);
@@ -387,7 +378,7 @@ final class SearchEdges {
 
     private void holeSpent() {
         doc.promise(19, "SPENT if it was SPENT ahead of one (but for what 20).");
-        LawHoles x = law(WIDE, "coin a>3", "coin a>4", "coin a>9");
+        LawHoles x = Check.law(WIDE, "coin a>3", "coin a>4", "coin a>9");
         doc.due("it is SPENT", x.met(1, 5, false), SPENT);
         doc.due("behind one", x.hole(0, 1, 5, 7, 0), 4);
         doc.due("behind one", x.hole(0, 1, 5, 7, 4), 15);
@@ -409,7 +400,7 @@ final class SearchEdges {
         doc.terms("FRIENDS: the PERSONS of the set with the fewest, then the least number, with which there is a HOLE (SPENT ones have none).");
         // a set in which all marked ones must be
         for (int set = 1; set <= 7; set++) {
-            LawHoles x = law("", "day=1", "day=" + Integer.bitCount(set));
+            LawHoles x = Check.law("", "day=1", "day=" + Integer.bitCount(set));
             Check.statute(x, 1, "act cd need owns a=1 make own none make day+1;");
             for (int p = 0; p < 3; p++) {
                 x.owner(p, (set >> p) % 2 == 1 ? p : 3);
@@ -418,7 +409,7 @@ final class SearchEdges {
             doc.due("the least one of " + set, x.friends(0, 2, 6), set & -set);
             doc.due("too few ACTS for " + set, x.friends(1, 2, Integer.bitCount(set) - 1), NONE);
         }
-        LawHoles x = law("act ab make coin b+1;", "coin a=1", "coin a=1 and things a=1", "day=0");
+        LawHoles x = Check.law("act ab make coin b+1;", "coin a=1", "coin a=1 and things a=1", "day=0");
         doc.due("the least of two", x.friends(0, 1, 6), 3);
         doc.due("the least of one", x.friends(2, 1, 6), 1);
         x.owner(0, 2);
@@ -427,11 +418,11 @@ final class SearchEdges {
         doc.due("the least with PERSON 1", x.friends(1, 1, 6), 3);
         Check.cure(x, 0, "0=1");
         doc.due("without CURES", x.friends(1, 1, 6), 3);
-        x = law("act ab need things a=1 make day+1;act cd need things a+things b=0 make day+1;", "day=1");
+        x = Check.law("act ab need things a=1 make day+1;act cd need things a+things b=0 make day+1;", "day=1");
         x.owner(0, 2);
         doc.due("0 and 1 could", x.hole(0, 1, 1, 3, 0), 1);
         doc.due("PERSON 2 alone is fewer", x.friends(0, 1, 1), 4);
-        x = law("act ab need things a=1 make coin a+1;act ac need things a=1 make coin b+1;act ad need things a=1 make debt a b+1;"
+        x = Check.law("act ab need things a=1 make coin a+1;act ac need things a=1 make coin b+1;act ad need things a=1 make debt a b+1;"
             + "act ae need things a=1 make debt b a+1;act af need things a=1 make day+1;", "wed a b=1");
         Check.statute(x, 1, "act ab need child a b=1 make wed a b;");
         x.owner(0, 1);
@@ -452,7 +443,7 @@ final class SearchEdges {
 
     private void friendsRefused() {
         doc.promise(20, "NONE if there is none, or one can't be.");
-        LawHoles x = law("act ab make day+1;", "day=0", "day=9");
+        LawHoles x = Check.law("act ab make day+1;", "day=0", "day=9");
         doc.due("there is none", x.friends(1, 1, 6), NONE);
         for (int k : new int[] {LEAST, -1, 2, 6, MOST}) {
             doc.due("NEVER " + k, x.friends(k, 1, 6), NONE);
@@ -468,7 +459,7 @@ final class SearchEdges {
 
     private void only() {
         doc.terms("ONLY: there is a HOLE by both STATUTES, but by neither alone.");
-        LawHoles x = law("act ab make coin a+1;", "coin a=1", "day=1", "coin a=1 and day=1", "coin a=0", "coin a=9", "coin a+day=1 or coin a=0 and day=2");
+        LawHoles x = Check.law("act ab make coin a+1;", "coin a=1", "day=1", "coin a=1 and day=1", "coin a=0", "coin a=9", "coin a+day=1 or coin a=0 and day=2");
         Check.statute(x, 1, "act ab make day+1;");
         int[] want = {0, 0, 1, 0, 0, 0};
         for (int k = 0; k < 6; k++) {
@@ -480,14 +471,14 @@ final class SearchEdges {
         doc.due("up to 0", x.only(2, 0), 0);
         Check.cure(x, 0, "0=1");
         doc.due("without CURES", x.only(2, 2), 1);
-        x = law("act ab need day=1 make coin b+1;", "coin a=1");
+        x = Check.law("act ab need day=1 make coin b+1;", "coin a=1");
         Check.statute(x, 1, "act ab make day+1;");
         doc.due("by all PERSONS", x.only(0, 2), 1);
     }
 
     private void onlyRefused() {
         doc.promise(21, "NONE if one can't be;");
-        LawHoles x = law("act ab make day+1;", "day=1");
+        LawHoles x = Check.law("act ab make day+1;", "day=1");
         for (int k : new int[] {LEAST, -1, 1, 6, MOST}) {
             doc.due("NEVER " + k, x.only(k, 1), NONE);
         }
@@ -497,7 +488,7 @@ final class SearchEdges {
         doc.promise(21, "SPENT if one of the three SEARCHES was SPENT without a HOLE.");
         String[] nevers = {"coin a=1", "day=1", "coin a=1 and day=1", "coin a=9", "coin a=0"};
         for (int wide = 0; wide < 2; wide++) {
-            x = law("", nevers);
+            x = Check.law("", nevers);
             Check.statute(x, wide, WIDE);
             Check.statute(x, 1 - wide, "act ab make day+1;");
             doc.due("a HOLE by the wide one and by both", x.only(0, 4), 0);
@@ -508,7 +499,7 @@ final class SearchEdges {
             doc.due("none SPENT", x.only(2, 2), 1);
         }
         // just both together are too many
-        x = law("act ab make coin a+1;act ac make own a;", "coin a=9", "coin a=1 and things a=1");
+        x = Check.law("act ab make coin a+1;act ac make own a;", "coin a=9", "coin a=1 and things a=1");
         Check.statute(x, 1, "act ab make day+1;act ac make debt a b+1;");
         doc.due("STATUTE 0 alone is not up to 3", x.met(1, 3, false), 245);
         doc.due("STATUTE 1 alone is not up to 3", x.met(2, 3, false), 120);
@@ -526,7 +517,7 @@ final class SearchEdges {
     private void alike() {
         doc.terms("STATES are ALIKE but for names, if some renaming of PERSONS and some of THINGS makes the one of the other.");
         String swap = "act ab make coin a+coin b-coin a make coin b+coin a-coin b";
-        LawHoles x = law(swap + ";");
+        LawHoles x = Check.law(swap + ";");
         for (int p = 0; p < 3; p++) {
             x.coin(p, p + 1);
         }
@@ -544,7 +535,7 @@ final class SearchEdges {
         x.kin(2, 1, 1, true);
         isAlike(x, 2, 6, 6);
         // both at once: the COINS go round, and the THINGS
-        x = law(swap + ";act cd need owns a=1 make own b;");
+        x = Check.law(swap + ";act cd need owns a=1 make own b;");
         for (int p = 0; p < 3; p++) {
             x.coin(p, p + 1);
             x.owner(p, p == 2 ? 3 : p);
@@ -553,17 +544,17 @@ final class SearchEdges {
         x.owner(2, 2);
         isAlike(x, 5, 162, 10);
         // DEBTS, CHILDREN and WED ones go with their PERSONS, both ends
-        x = law("act ab make debt a b+1;");
+        x = Check.law("act ab make debt a b+1;");
         isAlike(x, 1, 7, 2);
         isAlike(x, 2, 28, 7);
-        x = law("act ab make adopt a b;");
+        x = Check.law("act ab make adopt a b;");
         isAlike(x, 1, 7, 2);
         isAlike(x, 2, 22, 6);
-        x = law("act ab make wed a b;");
+        x = Check.law("act ab make wed a b;");
         isAlike(x, 1, 4, 2);
         isAlike(x, 3, 8, 4);
         // THINGS: which one does not matter, whose does, if he is told from others
-        x = law("act ab make own a;");
+        x = Check.law("act ab make own a;");
         isAlike(x, 1, 10, 2);
         isAlike(x, 3, 64, 7);
         x.coin(0, 1);
@@ -571,9 +562,9 @@ final class SearchEdges {
         x.coin(0, 0);
         x.owner(0, 0);
         isAlike(x, 1, 9, 3);
-        x = law("act ab make day+1;");
+        x = Check.law("act ab make day+1;");
         isAlike(x, 3, 4, 4);
-        x = law("act ab make own a make coin a+1;");
+        x = Check.law("act ab make own a make coin a+1;");
         x.owner(0, 1);
         x.owner(1, 2);
         isAlike(x, 1, 10, 5);
@@ -582,7 +573,7 @@ final class SearchEdges {
     private void met() {
         doc.promise(22, "How many STATES are MET by LAWS up to n ACTS (all PERSONS, no CURES);"
             + " of those ALIKE but for names just one counts, if it is told so.");
-        LawHoles x = law("act ab make coin a+1;");
+        LawHoles x = Check.law("act ab make coin a+1;");
         Check.statute(x, 1, "act ab make wed a b;");
         Check.cure(x, 0, "0=1");
         Check.cure(x, 6, "0=1");
@@ -605,7 +596,7 @@ final class SearchEdges {
             doc.due("up to " + n, x.met(1, n, false), NONE);
             doc.due("up to " + n, x.met(1, n, true), NONE);
         }
-        x = law(WIDE);
+        x = Check.law(WIDE);
         doc.due("220", x.met(1, 3, false), 220);
         doc.due("SPENT", x.met(1, 4, false), SPENT);
         doc.due("SPENT, though few are unlike", x.met(1, 4, true), SPENT);
@@ -614,7 +605,7 @@ final class SearchEdges {
 
     private void gains() {
         doc.terms("GAIN of a PERSON: of all STATES MET (all PERSONS, no CURES) the most that its COIN is less all its DEBTS; of several the first.");
-        LawHoles x = law("act ab need coin a>0 make coin a-1 make coin b+2 make debt b a+1;act cd make day+1;");
+        LawHoles x = Check.law("act ab need coin a>0 make coin a-1 make coin b+2 make debt b a+1;act cd make day+1;");
         Check.cure(x, 0, "0=1");
         x.coin(0, 2);
         x.debt(1, 0, 3);
@@ -623,14 +614,14 @@ final class SearchEdges {
         doc.due("of PERSON 0", x.gain(0, 1, 2, 0), 2);
         doc.due("of PERSON 1", x.gain(1, 1, 2, 0), -5);
         doc.due("of PERSON 2, whose DEBT goes on", x.gain(2, 1, 2, 0), -5);
-        x = law("act ab make coin a+1 make debt a b+1;act cd make day+1;");
+        x = Check.law("act ab make coin a+1 make debt a b+1;act cd make day+1;");
         doc.due("of several", x.gain(1, 1, 3, 0), 0);
         doc.due("the first", x.gain(1, 1, 3, 1), 0);
-        x = law("act ab make coin b+1 make day+1;act cd make coin a+1 make day+2;act ef make coin a+1;");
+        x = Check.law("act ab make coin b+1 make day+1;act cd make coin a+1 make day+2;act ef make coin a+1;");
         doc.due("of several", x.gain(2, 1, 1, 0), 1);
         doc.due("the first", x.gain(2, 1, 1, 2), 8 + 3);
         doc.promise(23, "GAIN of a PERSON by LAWS up to n ACTS: what 0 that, 1 how many CODES THE ROW has, 2 + k CODE k.");
-        x = law("act ab need coin a=day make coin a+1 make day+1;");
+        x = Check.law("act ab need coin a=day make coin a+1 make day+1;");
         Check.statute(x, 1, "act ab make debt a b+1;");
         for (int n = 0; n <= 6; n++) {
             doc.due("up to " + n, x.gain(1, 1, n, 0), n);
@@ -656,7 +647,7 @@ final class SearchEdges {
 
     private void gainRefused() {
         doc.promise(23, "NONE - 99 if one can't be, there is no such CODE, or another what;");
-        LawHoles x = law("act ab make coin a+1;");
+        LawHoles x = Check.law("act ab make coin a+1;");
         for (int what = 0; what < 3; what++) {
             for (int p : new int[] {LEAST, -1, 3, MOST}) {
                 doc.due("PERSON " + p, x.gain(p, 1, 2, what), -100);
@@ -674,7 +665,7 @@ final class SearchEdges {
         }
         doc.due("no CODE by STATUTE 1", x.gain(0, 2, 2, 2), -100);
         doc.promise(23, "SPENT - 99 if it was SPENT.");
-        x = law(WIDE);
+        x = Check.law(WIDE);
         for (int n = 4; n <= 6; n++) {
             for (int what = -1; what <= 22; what++) {
                 int want = what >= 0 ? -101 : -100;
